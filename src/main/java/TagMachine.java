@@ -239,8 +239,8 @@ public final class TagMachine {
     private void goOneCycle() {
         useBus();
         work();
-        beginAdder();
-        beginMultiplier();
+        beginStation(firstReady(FIRST_ADDER, LAST_ADDER));
+        beginStation(nextOfMultiplier());
         beginStorage();
         if (mode == RUNS) {
             handOut();
@@ -335,26 +335,28 @@ public final class TagMachine {
         return unit.address % banks;
     }
 
-    private void beginAdder() {
-        int t = firstReady(FIRST_ADDER, LAST_ADDER);
+    private int nextOfMultiplier() {
+        boolean works = firstLike(WORKS, FIRST_MULTIPLIER, LAST_MULTIPLIER) != NONE;
+        return works ? NONE : firstReady(FIRST_MULTIPLIER, LAST_MULTIPLIER);
+    }
+
+    private void beginStation(int t) {
         if (t != NONE) {
-            beginStation(units[t], ADDER_CYCLES);
+            Unit unit = units[t];
+            reckoner.workOut(unit.op - ADD, unit.first.value, unit.second.value);
+            unit.begin(cyclesFor(unit.op), reckoner.result, reckoner.raised);
         }
     }
 
-    private void beginMultiplier() {
-        if (firstLike(WORKS, FIRST_MULTIPLIER, LAST_MULTIPLIER) != NONE) {
-            return;
+    private static int cyclesFor(int op) {
+        switch (op) {
+            case MUL:
+                return MUL_CYCLES;
+            case DIV:
+                return DIV_CYCLES;
+            default:
+                return ADDER_CYCLES;
         }
-        int t = firstReady(FIRST_MULTIPLIER, LAST_MULTIPLIER);
-        if (t != NONE) {
-            beginStation(units[t], units[t].op == MUL ? MUL_CYCLES : DIV_CYCLES);
-        }
-    }
-
-    private void beginStation(Unit unit, int toGo) {
-        reckoner.workOut(unit.op - ADD, unit.first.value, unit.second.value);
-        unit.begin(toGo, reckoner.result, reckoner.raised);
     }
 
     private void beginStorage() {
@@ -676,26 +678,24 @@ public final class TagMachine {
         }
 
         private static int alignedSum(int a, int b) {
-            int c = greaterCharacteristic(a, b);
-            return aligned(a, c) + aligned(b, c);
+            int d = characteristic(a) - characteristic(b);
+            return aligned(a, -d) + aligned(b, d);
         }
 
-        private static int aligned(int number, int c) {
-            int d = c - characteristic(number);
-            int size = d > GUARDED_DIGITS ? 0 : 16 * fraction(number) >> 4 * d;
+        /** The signed fraction with its guard, for a number whose characteristic is less by d than the other's. */
+        private static int aligned(int number, int d) {
+            int digitsLost = Math.max(0, Math.min(GUARDED_DIGITS, d));
+            int size = 16 * fraction(number) >> 4 * digitsLost;
             return number < 0 ? -size : size;
         }
 
         private static int normalFraction(int number) {
-            return fraction(number) << 4 * zerosToLose(number);
+            int f = fraction(number);
+            return f << 4 * leadingZeros(f, FRACTION_DIGITS);
         }
 
         private static int normalCharacteristic(int number) {
-            return characteristic(number) - zerosToLose(number);
-        }
-
-        private static int zerosToLose(int number) {
-            return leadingZeros(fraction(number), FRACTION_DIGITS);
+            return characteristic(number) - leadingZeros(fraction(number), FRACTION_DIGITS);
         }
 
         private static int leadingZeros(int f, int digits) {
