@@ -521,7 +521,10 @@ public final class TagMachine {
         }
     }
 
-    /** A station or a buffer; a store has its value as the first operand, and a load needs none. */
+    /**
+     * A station or a buffer; a store has its value as the first operand, and a load needs none.
+     * Operands that are never given wait for nothing, so they hold nothing up.
+     */
     private static final class Unit {
         final Operand first = new Operand();
         final Operand second = new Operand();
@@ -537,14 +540,11 @@ public final class TagMachine {
             return state == NOT_BEGUN && !first.isAwaited() && !second.isAwaited();
         }
 
-        /** The operands are emptied, so that those which this op does not use hold nothing up. */
         void claim(int newOp, int newAddress, int newOrder) {
             state = NOT_BEGUN;
             op = newOp;
             address = newAddress;
             order = newOrder;
-            first.haveValue(0);
-            second.haveValue(0);
         }
 
         void begin(int cyclesToGo, int futureResult, int futureExceptions) {

@@ -3,6 +3,12 @@ import java.util.Objects;
 /** Counts the answers that are not the ones due, and ends the test with exit code 1 if there were any. */
 final class Check {
     private int wrong;
+    private String sentence = "";
+
+    /** What the document says, told with each wrong answer until the next sentence. */
+    void sentence(String text) {
+        sentence = " [" + text + "]";
+    }
 
     void same(String call, long got, long due) {
         if (got != due) {
@@ -46,7 +52,7 @@ final class Check {
     void fail(String text) {
         wrong++;
         if (wrong <= 40) {
-            System.out.println(text);
+            System.out.println(text + sentence);
         }
     }
 
